@@ -6,7 +6,7 @@ import java.util.ArrayList;
 import java.util.Arrays;
 import java.util.List;
 
-/** The document's face, the new object, and what of LANGUAGE.md reflection can see. */
+/** Promise 1: the document's face, and the new object. */
 final class FaceTest {
     private static final String E = "IndexOutOfBoundsException", A = "IllegalArgumentException",
             S = "IllegalStateException";
@@ -91,57 +91,6 @@ final class FaceTest {
             }
         }
         same("constants", Arrays.asList(CONSTANTS), found);
-    }
-
-    static void rule01_nothingElseIsVisible() {
-        List<String> named = new ArrayList<>();
-        for (Method method : ToolCrib.class.getDeclaredMethods()) {
-            boolean isSeen = Modifier.isPublic(method.getModifiers());
-            Check.that(method + " is public or private", isSeen || Modifier.isPrivate(method.getModifiers()));
-            if (isSeen) {
-                named.add(method.getName());
-            }
-        }
-        for (Method method : ToolCrib.class.getDeclaredMethods()) {
-            if (Modifier.isPrivate(method.getModifiers())) {
-                Check.that(method + " has a name of its own", !named.contains(method.getName()));
-            }
-        }
-        for (Class<?> inside : ToolCrib.class.getDeclaredClasses()) {
-            int modifiers = inside.getModifiers();
-            Check.that(inside + " is hidden", !Modifier.isPublic(modifiers) && !Modifier.isProtected(modifiers));
-            Check.that(inside + " is static", Modifier.isStatic(modifiers));
-            for (Method method : inside.getDeclaredMethods()) {
-                Check.that(method + " has a name of its own", !named.contains(method.getName()));
-            }
-        }
-    }
-
-    static void rule05_staticsAreConstants() {
-        List<Class<?>> all = new ArrayList<>(Arrays.asList(ToolCrib.class.getDeclaredClasses()));
-        all.add(ToolCrib.class);
-        for (Class<?> each : all) {
-            for (Field field : each.getDeclaredFields()) {
-                Check.that(field + " is final", !Modifier.isStatic(field.getModifiers())
-                        || Modifier.isFinal(field.getModifiers()));
-            }
-        }
-    }
-
-    static void rule11_classesStaySmall() {
-        Check.that("twelve classes", ToolCrib.class.getDeclaredClasses().length < 12);
-        List<Class<?>> all = new ArrayList<>(Arrays.asList(ToolCrib.class.getDeclaredClasses()));
-        all.add(ToolCrib.class);
-        for (Class<?> each : all) {
-            int fields = 0;
-            for (Field field : each.getDeclaredFields()) {
-                fields += Modifier.isStatic(field.getModifiers()) ? 0 : 1;
-            }
-            Check.that(each + " has twenty fields at most", fields <= 20);
-            for (Method method : each.getDeclaredMethods()) {
-                Check.that(method + " has seven parameters at most", method.getParameterCount() <= 7);
-            }
-        }
     }
 
     private static String line(Method method) {
