@@ -78,7 +78,7 @@ public final class ToolCrib {
         if (tools.size() >= MOST_TOOLS) {
             throw new IllegalStateException("no more tools");
         }
-        tools.add(new Tool(kind, life));
+        tools.add(new Tool(tools.size(), kind, life));
         return tools.size() - 1;
     }
 
@@ -454,13 +454,13 @@ public final class ToolCrib {
         return left;
     }
 
-    private int lowestToolFor(int kind) {
+    private Tool lowestToolFor(int kind) {
         for (int n = 0; n < tools.size(); n++) {
             if (tools.get(n).leftFor(kind) > 0) {
-                return n;
+                return tools.get(n);
             }
         }
-        return NONE;
+        return null;
     }
 
     private void tell(int cutter, int away) {
@@ -490,23 +490,27 @@ public final class ToolCrib {
     }
 
     // Nothing can go wrong here: plan() proved it, and no block is added while a pallet is planned.
+    // The steps gone are walked again without a look at the stock, so that all modes are set as they were.
     private boolean isCutToEnd(Pallet first) {
-        walk.begin(first.program, first.gone);
+        int goneBefore = first.gone;
+        walk.begin(first.program);
         for (int n = 0; n <= STEPS_A_RUN && walk.goStep(); n++) {
+            if (n < goneBefore) {
+                continue;
+            }
             if (walk.isBelow(first.heights)) {
-                int cutter = lowestToolFor(walk.kind);
-                if (cutter == NONE) {
+                Tool cutting = lowestToolFor(walk.kind);
+                if (cutting == null) {
                     return false;
                 }
-                cutBy(cutter, first);
+                cutBy(cutting, first);
             }
             first.gone++;
         }
         return true;
     }
 
-    private void cutBy(int cutter, Pallet first) {
-        Tool cutting = toolAt(cutter);
+    private void cutBy(Tool cutting, Pallet first) {
         int cell = walk.cellNow();
         int x = walk.at[ALONG_X];
         errorParts[0] = mapErrors[x];
@@ -518,7 +522,7 @@ public final class ToolCrib {
         for (int part = 0; part < errorParts.length; part++) {
             first.sizes[cell] += errorParts[part];
         }
-        first.cutters[cell] = cutter;
+        first.cutters[cell] = cutting.number;
         first.causes[cell] = greatestPart();
         cutting.used++;
         now++;
@@ -552,6 +556,7 @@ public final class ToolCrib {
     }
 
     private static final class Tool {
+        final int number;
         final int kind;
         final int life;
         final int[] latest = new int[LATEST];
@@ -560,7 +565,8 @@ public final class ToolCrib {
         int told;
         boolean isIn;
 
-        Tool(int kind, int life) {
+        Tool(int number, int kind, int life) {
+            this.number = number;
             this.kind = kind;
             this.life = life;
         }
@@ -700,7 +706,7 @@ public final class ToolCrib {
         }
     }
 
-    /** The way of the spindle through a program, whatever stands below it. */
+    /** The programs, and the way of the spindle through one of them, whatever stands below it. */
     private static final class Walk {
         final ArrayList<Program> programs = new ArrayList<>();
         private final ArrayList<Program> open = new ArrayList<>();
@@ -714,8 +720,7 @@ public final class ToolCrib {
         int kind;
         int wrong;
 
-        // The steps gone are walked again: which they were does not hang on what was cut by them.
-        void begin(int program, int gone) {
+        void begin(int program) {
             open.clear();
             at[ALONG_X] = 0;
             at[ALONG_Y] = 0;
@@ -728,21 +733,20 @@ public final class ToolCrib {
             kind = NONE;
             wrong = FINE;
             enter(program);
-            for (int n = 0; n < gone; n++) {
-                goStep();
-            }
         }
 
         /** Comes to the next cell or height; false at the end, and ahead of what is wrong. */
         boolean goStep() {
-            for (int n = 0; n <= BLOCKS_A_RUN; n++) {
+            for (int n = 0; n <= BLOCKS_A_RUN && wrong == FINE; n++) {
                 if (at[axis] != goal) {
                     at[axis] += at[axis] < goal ? 1 : -1;
                     return true;
                 }
-                if (!isNextBlockDone()) {
+                leaveEnded();
+                if (open.isEmpty()) {
                     return false;
                 }
+                obeyNext(open.size() - 1);
             }
             return false;
         }
@@ -759,24 +763,6 @@ public final class ToolCrib {
             return isCutting && kind != NONE;
         }
 
-        private boolean isNextBlockDone() {
-            leaveEnded();
-            int depth = open.size() - 1;
-            if (depth < 0) {
-                return false;
-            }
-            if (blocksDone >= BLOCKS_A_RUN) {
-                wrong = ENDLESS;
-                return false;
-            }
-            blocksDone++;
-            Program current = open.get(depth);
-            int place = next[depth];
-            next[depth]++;
-            obey(current.words[place], current.values[place]);
-            return wrong == FINE;
-        }
-
         private void leaveEnded() {
             for (int depth = open.size() - 1; depth >= 0; depth--) {
                 if (next[depth] < open.get(depth).size) {
@@ -786,8 +772,16 @@ public final class ToolCrib {
             }
         }
 
-        private void obey(int word, int value) {
-            switch (word) {
+        private void obeyNext(int depth) {
+            if (blocksDone >= BLOCKS_A_RUN) {
+                wrong = ENDLESS;
+                return;
+            }
+            blocksDone++;
+            int place = next[depth];
+            next[depth]++;
+            int value = open.get(depth).values[place];
+            switch (open.get(depth).words[place]) {
                 case MODE:
                     isCutting = value == 1;
                     break;
@@ -795,15 +789,21 @@ public final class ToolCrib {
                     isFromSpindle = value == 1;
                     break;
                 case X:
+                    aim(ALONG_X, value, SIDE - 1);
+                    break;
                 case Y:
+                    aim(ALONG_Y, value, SIDE - 1);
+                    break;
                 case Z:
-                    aim(word - X, value);
+                    aim(ALONG_Z, value, TOP);
                     break;
                 case KIND:
                     changeTool(value);
                     break;
-                default:
+                case CALL:
                     enter(value);
+                    break;
+                default:
                     break;
             }
         }
@@ -824,10 +824,9 @@ public final class ToolCrib {
             }
         }
 
-        private void aim(int along, int value) {
+        private void aim(int along, int value, int last) {
             int place = isFromSpindle ? at[along] + value : value;
-            int last = along == ALONG_Z ? TOP : SIDE - 1;
-            if (!isWithin(place, 0, last)) {
+            if (place < 0 || place > last) {
                 wrong = TRAVEL;
             } else {
                 axis = along;
@@ -849,8 +848,11 @@ public final class ToolCrib {
             Arrays.fill(cutsByKind, 0);
             steps = 0;
             cuts = 0;
-            walk.begin(program, gone);
+            walk.begin(program);
             for (int n = 0; n <= STEPS_A_RUN && walk.goStep(); n++) {
+                if (n < gone) {
+                    continue;
+                }
                 if (walk.isBelow(tried.clamps) || walk.isBelow(heights) && !walk.canCut()) {
                     wrong = CRASH;
                     return;

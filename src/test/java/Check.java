@@ -31,6 +31,12 @@ final class Check {
         }
     }
 
+    /** Whether a throw statement of the class threw it, and not the library or the machine below it. */
+    static boolean isThrownByTheShop(RuntimeException thrown) {
+        StackTraceElement[] trace = thrown.getStackTrace();
+        return trace.length > 0 && trace[0].getClassName().split("\\$")[0].equals("ToolCrib");
+    }
+
     /** The call throws exactly this, and the shop answers every question afterwards as before. */
     static void refused(ToolCrib shop, Class<? extends RuntimeException> want, String what, Call call) {
         checks++;
@@ -40,6 +46,9 @@ final class Check {
         } catch (RuntimeException thrown) {
             if (thrown.getClass() != want) {
                 faults.add(what + " threw " + thrown + ", due is " + want.getSimpleName());
+            }
+            if (!isThrownByTheShop(thrown)) {
+                faults.add(what + " was not thrown by a statement of the class");
             }
         }
         if (!before.equals(Snapshot.of(shop))) {

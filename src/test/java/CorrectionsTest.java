@@ -85,6 +85,17 @@ final class CorrectionsTest {
         Check.due("three above", 20, shop.correct(0));
     }
 
+    static void promise21_noiseBelowIsNotChasedEither() {
+        ToolCrib shop = row(-40, -40, 0, 0);
+        drawn(shop, 0, 1, 2);
+        drawn(shop, 0, 1, 1);
+        shop.judge(0, 0, 0);
+        Check.due("below, below, 0", 0, shop.correct(0));
+        Check.due("nothing is forgotten", 3, shop.ofTool(0, 5));
+        shop.judge(0, 1, 0);
+        Check.due("three below", -20, shop.correct(0));
+    }
+
     static void promise21_heldTo200() {
         ToolCrib shop = new ToolCrib();
         Shop.loaded(shop, 0, 500);

@@ -215,7 +215,7 @@ final class FuzzTest {
         try {
             got = ofShop(name, args);
         } catch (RuntimeException thrown) {
-            got = thrown.getClass();
+            got = Check.isThrownByTheShop(thrown) ? thrown.getClass() : thrown;
         }
         Check.checks++;
         if (!want.equals(got)) {

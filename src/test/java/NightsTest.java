@@ -29,6 +29,17 @@ final class NightsTest {
         Check.due("minute", 14, shop.minute());
     }
 
+    static void promise12_sixPalletsInANight() {
+        ToolCrib shop = twoKinds(6);
+        Shop.loaded(shop, 0, 24);
+        Shop.loaded(shop, 1, 18);
+        Check.due("foresees", 6, shop.foresees());
+        Check.due("lacks", 0, shop.lacks(0));
+        Check.due("lacks", 0, shop.lacks(1));
+        Check.due("night", 6, shop.night());
+        Check.due("minute", 42, shop.minute());
+    }
+
     static void promise12_endsAheadOfTheStep() {
         ToolCrib shop = twoKinds(3);
         Shop.loaded(shop, 0, 500);

@@ -208,6 +208,24 @@ final class ProgramsTest {
         Check.due("rapid at the beginning of each proof", CRASH + 4, shop.prove(0, 2));
     }
 
+    static void promise09_eachProofBeginsAnew() {
+        ToolCrib shop = new ToolCrib();
+        shop.pallet(5);
+        Shop.write(shop, KIND, 2, MODE, 1, MEASURE, 1, Y, 3, X, 2, Z, -5);
+        Shop.write(shop, KIND, 2, Z, 4);
+        Shop.write(shop, MODE, 1, Z, 4);
+        Shop.write(shop, X, 5, X, 1);
+        Shop.write(shop, Z, 5, X, -1);
+        Check.due("cutting", 1, shop.takes(0, 0));
+        Check.due("rapid again", CRASH + 4, shop.prove(0, 1));
+        shop.takes(0, 0);
+        Check.due("without a tool again", CRASH + 4, shop.prove(0, 2));
+        shop.takes(0, 0);
+        Check.due("told from the corner again", ToolCrib.NONE, shop.prove(0, 3));
+        shop.takes(0, 0);
+        Check.due("at the height 9 again", TRAVEL + 4, shop.prove(0, 4));
+    }
+
     static void promise09_whatIsWrongFirst() {
         ToolCrib shop = new ToolCrib();
         shop.pallet(5);
