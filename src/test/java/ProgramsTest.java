@@ -88,6 +88,8 @@ final class ProgramsTest {
         proves(shop, "x 11 is there", ToolCrib.NONE, X, 11, X, 0, Y, 11, Y, 0, Z, 1, Z, 9);
         proves(shop, "z 10 is none", TRAVEL, Z, 10);
         proves(shop, "y from the spindle", TRAVEL + 11, Y, 11, MEASURE, 1, Y, 1);
+        proves(shop, "x from the spindle", TRAVEL + 11, X, 11, MEASURE, 1, X, 1);
+        proves(shop, "y below 0", TRAVEL + 2, Y, 2, MEASURE, 1, Y, -3);
         proves(shop, "z from the spindle", TRAVEL + 4, Z, 5, MEASURE, 1, Z, -6);
         proves(shop, "z above the top", TRAVEL + 3, Z, 6, MEASURE, 1, Z, 4);
     }
