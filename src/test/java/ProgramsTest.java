@@ -292,28 +292,15 @@ final class ProgramsTest {
     }
 
     private static void proves(ToolCrib like, String what, int want, int... blocks) {
-        ToolCrib shop = same(like);
+        ToolCrib shop = Shop.alike(like);
         Shop.write(shop, blocks);
         Check.due(what, want, shop.prove(0, 0));
         Check.due(what + ", takes", want == ToolCrib.NONE ? 1 : 0, shop.takes(0, 0) == ToolCrib.NONE ? 0 : 1);
     }
 
     private static void takes(ToolCrib like, String what, int want, int... blocks) {
-        ToolCrib shop = same(like);
+        ToolCrib shop = Shop.alike(like);
         Shop.write(shop, blocks);
         Check.due(what, want, shop.takes(0, 0));
-    }
-
-    // A program each needs a shop each: there are six at most.
-    private static ToolCrib same(ToolCrib like) {
-        ToolCrib shop = new ToolCrib();
-        shop.pallet(like.ofCell(0, 11, 11, 0));
-        for (int cell = 0; cell < 144; cell++) {
-            int clamp = like.ofCell(0, cell % 12, cell / 12, 4);
-            if (clamp > 0) {
-                shop.clamp(0, cell % 12, cell / 12, clamp);
-            }
-        }
-        return shop;
     }
 }

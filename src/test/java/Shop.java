@@ -38,4 +38,31 @@ final class Shop {
         shop.night();
         return pallet;
     }
+
+    /** Writes two programs: the second one cuts all cells to the height 0, a height each time, by kind 0. */
+    static int shaveAll(ToolCrib shop) {
+        int row = shop.program();
+        for (int y = 0; y < 12; y++) {
+            append(shop, row, ToolCrib.Y, y, ToolCrib.X, y % 2 == 0 ? 11 : 0);
+        }
+        append(shop, row, ToolCrib.Y, 0);
+        int all = write(shop, ToolCrib.KIND, 0, ToolCrib.MODE, 1);
+        for (int z = 8; z >= 0; z--) {
+            append(shop, all, ToolCrib.Z, z, ToolCrib.CALL, row);
+        }
+        return all;
+    }
+
+    /** A new shop with a pallet like the first one of this shop, and nothing else: a program each needs a shop each. */
+    static ToolCrib alike(ToolCrib like) {
+        ToolCrib shop = new ToolCrib();
+        shop.pallet(like.ofCell(0, 11, 11, 0));
+        for (int cell = 0; cell < 144; cell++) {
+            int clamp = like.ofCell(0, cell % 12, cell / 12, 4);
+            if (clamp > 0) {
+                shop.clamp(0, cell % 12, cell / 12, clamp);
+            }
+        }
+        return shop;
+    }
 }
