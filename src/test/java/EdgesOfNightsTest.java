@@ -271,6 +271,57 @@ final class EdgesOfNightsTest {
         }
     }
 
+    /** The longest way: 600 blocks, of which 19 are CALLs, and all others go from one side to the other. */
+    static void promise12_theLongestWay() {
+        ToolCrib shop = new ToolCrib();
+        Shop.write(shop);
+        Shop.write(shop);
+        for (int n = 0; n < 15; n++) {
+            Shop.append(shop, 0, X, 11, X, 0);
+        }
+        for (int n = 0; n < 19; n++) {
+            shop.block(1, ToolCrib.CALL, 0);
+        }
+        for (int n = 0; n < 11; n++) {
+            shop.block(1, Y, n % 2 == 0 ? 11 : 0);
+        }
+        shop.pallet(9);
+        shop.pallet(9);
+        Check.due("600 blocks are not too many", NONE, shop.prove(0, 1));
+        shop.plan(0, 1);
+        shop.plan(1, 1);
+        Check.due("foresees", 2, shop.foresees());
+        Check.due("night", 2, shop.night());
+        Check.due("steps", (600 - 19) * 11, shop.ofPallet(0, GONE));
+        Check.due("steps", (600 - 19) * 11, shop.ofPallet(1, GONE));
+    }
+
+    /** The last two cuts of a way of 562 blocks wait for their tools: the way there is gone but once. */
+    static void promise12_farBehindTheBeginning() {
+        ToolCrib shop = new ToolCrib();
+        Shop.write(shop);
+        for (int n = 0; n < 15; n++) {
+            Shop.append(shop, 0, X, 11, X, 0);
+        }
+        Shop.write(shop, KIND, 2);
+        for (int n = 0; n < 18; n++) {
+            shop.block(1, ToolCrib.CALL, 0);
+        }
+        Shop.append(shop, 1, MODE, 1, Z, 8, Z, 7);
+        shop.pallet(9);
+        shop.plan(0, 1);
+        int way = 18 * 30 * 11;
+        Check.due("night", 0, shop.night());
+        Check.due("steps", way, shop.ofPallet(0, GONE));
+        Shop.loaded(shop, 2, 1);
+        Check.due("night", 0, shop.night());
+        Check.due("steps", way + 1, shop.ofPallet(0, GONE));
+        Shop.loaded(shop, 2, 1);
+        Check.due("night", 1, shop.night());
+        Check.due("steps", way + 2, shop.ofPallet(0, GONE));
+        Check.due("minute", 2, shop.minute());
+    }
+
     /** "Tells at dusk what night() would return": exactly enough, one too few, and sisters together. */
     static void promise13_exactlyEnough() {
         for (int first = 1; first <= 4; first++) {
@@ -331,6 +382,21 @@ final class EdgesOfNightsTest {
             }
             shop.night();
             Check.due("a used up tool has nothing left", lacks[n], shop.lacks(3));
+        }
+    }
+
+    /** "kind: 0 to 3": each of them lacks its own, none is below or above them. */
+    static void promise14_kindsNoughtToThree() {
+        for (int kind = 0; kind <= 3; kind++) {
+            ToolCrib shop = new ToolCrib();
+            Shop.write(shop, KIND, kind, MODE, 1, Z, 7);
+            shop.pallet(9);
+            shop.plan(0, 0);
+            for (int asked = 0; asked <= 3; asked++) {
+                Check.due("lacks of " + asked, asked == kind ? 2 : 0, shop.lacks(asked));
+            }
+            Check.refused(shop, Check.ARGUMENT, "one below", () -> shop.lacks(-1));
+            Check.refused(shop, Check.ARGUMENT, "one above", () -> shop.lacks(4));
         }
     }
 

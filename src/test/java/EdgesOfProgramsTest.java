@@ -43,6 +43,26 @@ final class EdgesOfProgramsTest {
         }
     }
 
+    /** "value: 0 or 1 for MODE and MEASURE, -11 to 11 for X, Y and Z, 0 to 3 for KIND", in each program. */
+    static void promise03_valuesInEachProgram() {
+        int[] least = {0, 0, -11, -11, -11, 0};
+        int[] greatest = {1, 1, 11, 11, 11, 3};
+        ToolCrib shop = new ToolCrib();
+        for (int n = 0; n < 6; n++) {
+            int program = shop.program();
+            int size = 0;
+            for (int each = MODE; each <= KIND; each++) {
+                int word = each;
+                Check.refused(shop, Check.ARGUMENT, "below", () -> shop.block(program, word, least[word] - 1));
+                Check.refused(shop, Check.ARGUMENT, "above", () -> shop.block(program, word, greatest[word] + 1));
+                Check.due("the least", ++size, shop.block(program, word, least[word]));
+                Check.due("the greatest", ++size, shop.block(program, word, greatest[word]));
+            }
+            Check.refused(shop, Check.ARGUMENT, "a word below", () -> shop.block(program, -1, 0));
+            Check.refused(shop, Check.ARGUMENT, "a word above", () -> shop.block(program, 7, 0));
+        }
+    }
+
     /** "a row of at most 30 blocks", whatever they are: a CALL is one of them. */
     static void promise03_thirtyOfAnyWord() {
         ToolCrib shop = new ToolCrib();
@@ -277,7 +297,26 @@ final class EdgesOfProgramsTest {
         Check.refused(other, Check.STATE, "not to be planned", () -> other.plan(0, 5));
     }
 
-    /** What is set behind a CALL is set in it too: each word. */
+    /** "A program begins ..", each time that it is proved: whatever another one set before it. */
+    static void promise09_eachBeginsAlike() {
+        ToolCrib shop = new ToolCrib();
+        shop.pallet(8);
+        Shop.write(shop, KIND, 2, X, 3, Y, 4, MODE, 1, MEASURE, 1, Z, -9);
+        Shop.write(shop, MODE, 1, Z, 7);
+        Shop.write(shop, KIND, 0, Z, 7);
+        Shop.write(shop, Z, 9, X, 11, X, 11, Y, 11, Y, 11);
+        Shop.write(shop, MEASURE, 1, X, -1);
+        int[] want = {NONE, CRASH + 1, CRASH + 1, NONE, TRAVEL};
+        for (int n = 1; n < 5; n++) {
+            Check.due("all is set", NONE, shop.prove(0, 0));
+            Check.due("and is not, anew", want[n], shop.prove(0, n));
+        }
+        shop.plan(0, 0);
+        shop.night();
+        Check.due("a night that waits sets nothing either", CRASH + 1, shop.prove(0, 1));
+    }
+
+    /** "what is set by them stays set behind them": each word. */
     static void promise09_whatACallSetsStaysSet() {
         ToolCrib shop = new ToolCrib();
         shop.pallet(8);

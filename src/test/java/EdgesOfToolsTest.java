@@ -50,6 +50,25 @@ final class EdgesOfToolsTest {
         Check.due("it is in", 1, shop.ofTool(15, IS_IN));
     }
 
+    /** "kind: 0 to 3", "life: 1 to 500": the least and the greatest, one below and one above, each by itself. */
+    static void promise05_kindsAndLives() {
+        ToolCrib shop = new ToolCrib();
+        int[][] tools = {{0, 1}, {3, 1}, {0, 500}, {3, 500}, {1, 2}, {2, 499}};
+        for (int n = 0; n < tools.length; n++) {
+            int kind = tools[n][0];
+            int life = tools[n][1];
+            Check.refused(shop, Check.ARGUMENT, "a kind below", () -> shop.tool(-1, life));
+            Check.refused(shop, Check.ARGUMENT, "a kind above", () -> shop.tool(4, life));
+            Check.refused(shop, Check.ARGUMENT, "a life below", () -> shop.tool(kind, 0));
+            Check.refused(shop, Check.ARGUMENT, "a life above", () -> shop.tool(kind, 501));
+            Check.due("its number", n, shop.tool(kind, life));
+            int[] want = {kind, life, 0, 0, 0, 0};
+            for (int what = 0; what <= 5; what++) {
+                Check.due("at first, " + what, want[what], shop.ofTool(n, what));
+            }
+        }
+    }
+
     /** "the magazine, which holds 6": whatever tools, worn out ones too; "6 others" are the others. */
     static void promise06_sixOthers() {
         ToolCrib shop = new ToolCrib();
